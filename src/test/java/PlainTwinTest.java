@@ -14,6 +14,9 @@ public final class PlainTwinTest {
         for (long seed = 1; seed <= seeds && wrong < 20; seed++) {
             new Run(seed).play();
         }
+        for (long seed = 1; seed <= seeds / 2 && wrong < 20; seed++) {
+            new Run(-seed).searchSlowLake();
+        }
         System.out.println(wrong == 0 ? "twins agree" : wrong + " answers differ from the twin's");
         if (wrong != 0) {
             System.exit(1);
@@ -46,6 +49,66 @@ public final class PlainTwinTest {
                     callOne();
                 }
             }
+        }
+
+        /** Slow boats from the same shore, so that time is short and hats are called for. */
+        void searchSlowLake() {
+            StringBuilder text = new StringBuilder("w");
+            int wide = 2 + random.nextInt(3);
+            text.append(wide);
+            for (int c = 1; c < wide; c++) {
+                text.append(random.nextInt(2));
+            }
+            text.append(';');
+            int hours = 3 + random.nextInt(8);
+            String signs = random.nextBoolean() ? ">>.<" : ".>..<";
+            for (int h = 0; h < hours; h++) {
+                text.append(signs.charAt(random.nextInt(signs.length())));
+            }
+            int boats = 1 + random.nextInt(3);
+            for (int b = 0; b < boats; b++) {
+                text.append(',').append("bbbot".charAt(random.nextInt(5)));
+                text.append(random.nextInt(5) == 0 ? 1 : 0).append(random.nextInt(4) == 0 ? 2 : 1);
+            }
+            sheet(0, 0, text.length());
+            for (int c = 0; c < text.length(); c++) {
+                put(0, c, text.charAt(c));
+            }
+            lake(0, 0, 0, text.length());
+            for (int round = 0; round < 2; round++) {
+                for (int set = 0; set < 1 << boats; set++) {
+                    soonest(set);
+                }
+                for (int b = 0; b < boats; b++) {
+                    rid(b);
+                }
+                for (int n = 0; n <= 10; n++) {
+                    hats((1 << boats) - 1, n);
+                    hats(random.nextInt(1 << boats), n);
+                }
+                isle(1 + random.nextInt(wide - 1), random.nextBoolean());
+                wind(random.nextInt(hours), random.nextInt(3));
+            }
+        }
+
+        private void soonest(int set) {
+            check("soonest(" + set + ")", real.soonest(set), twin.soonest(set));
+        }
+
+        private void hats(int set, int n) {
+            check("hats(" + set + ", " + n + ")", real.hats(set, n), twin.hats(set, n));
+        }
+
+        private void rid(int b) {
+            check("rid(" + b + ")", real.rid(b), twin.rid(b));
+        }
+
+        private void isle(int c, boolean is) {
+            check("isle(" + c + ", " + is + ")", real.isle(c, is), twin.isle(c, is));
+        }
+
+        private void wind(int hour, int v) {
+            check("wind(" + hour + ", " + v + ")", real.wind(hour, v), twin.wind(hour, v));
         }
 
         private void check(String call, long got, long due) {
@@ -215,12 +278,12 @@ public final class PlainTwinTest {
             switch (random.nextInt(26)) {
                 case 0 -> lake(k, lane, i, near(30));
                 case 1 -> { int what = near(3); check("ofBoat(" + b + ", " + what + ")", real.ofBoat(b, what), twin.ofBoat(b, what)); }
-                case 2 -> { int h = near(9); int v = near(2); check("wind(" + h + ", " + v + ")", real.wind(h, v), twin.wind(h, v)); }
-                case 3 -> { int c = near(4); boolean is = random.nextBoolean(); check("isle(" + c + ", " + is + ")", real.isle(c, is), twin.isle(c, is)); }
+                case 2 -> wind(near(9), near(2));
+                case 3 -> isle(near(4), random.nextBoolean());
                 case 4 -> plan(k, lane, i, n, random.nextBoolean() ? near(3) : near(12));
-                case 5, 6 -> { int set = near(7); check("soonest(" + set + ")", real.soonest(set), twin.soonest(set)); }
-                case 7 -> { int set = near(7); int m = near(10); check("hats(" + set + ", " + m + ")", real.hats(set, m), twin.hats(set, m)); }
-                case 8 -> check("rid(" + b + ")", real.rid(b), twin.rid(b));
+                case 5, 6 -> soonest(near(7));
+                case 7 -> hats(near(7), near(10));
+                case 8 -> rid(b);
                 case 9 -> { int h = near(9); int c = near(4); check("reading(" + b + ", " + h + ", " + c + ")", real.reading(b, h, c), twin.reading(b, h, c)); }
                 case 10 -> { int m = near(4); check("back(" + m + ")", real.back(m), twin.back(m)); }
                 case 11 -> { int h = near(9); check("winds(" + h + ", " + k + ", " + lane + ", " + i + ", " + n + ")", real.winds(h, k, lane, i, n), twin.winds(h, k, lane, i, n)); }
