@@ -1,11 +1,5 @@
 /** Each promise of the document by hand: ordinary inputs, the edges that it names, wrong inputs. */
-public final class PromiseTest {
-    private static final int LEAST = Integer.MIN_VALUE, MOST = Integer.MAX_VALUE;
-    private static final String ONE = "w20;>,b01";
-    private static final String THREE = "w4010;>><.<>,b01,o12,t02";
-    private static int wrong = 0;
-    private static String promise = "";
-
+public final class PromiseTest extends Hand {
     public static void main(String[] args) {
         newObject();
         lake();
@@ -36,51 +30,7 @@ public final class PromiseTest {
         as();
         faultIsKept();
         many();
-        System.out.println(wrong == 0 ? "all promises hold" : wrong + " answers are not as due");
-        if (wrong != 0) {
-            System.exit(1);
-        }
-    }
-
-    private static void due(String call, long got, long want) {
-        if (got != want) {
-            wrong++;
-            System.out.println(promise + ": " + call + " answered " + got + ", due is " + want);
-        }
-    }
-
-    private static int write(LakeWind x, int k, int lane, String text) {
-        x.sheet(k, lane, text.length());
-        for (int c = 0; c < text.length(); c++) {
-            x.put(k, c, text.charAt(c));
-        }
-        return text.length();
-    }
-
-    private static int lakeBy(LakeWind x, String text) {
-        return x.lake(0, 0, 0, write(x, 0, 0, text));
-    }
-
-    private static LakeWind at(String text) {
-        LakeWind x = new LakeWind();
-        int got = lakeBy(x, text);
-        if (got < 1) {
-            due("lake by " + text, got, 1);
-        }
-        return x;
-    }
-
-    /** Orders go to sheet 1, lane 2. */
-    private static int order(LakeWind x, int... sets) {
-        x.sheet(1, 2, sets.length);
-        for (int h = 0; h < sets.length; h++) {
-            x.put(1, h, sets[h]);
-        }
-        return sets.length;
-    }
-
-    private static int planned(LakeWind x, int what, int... sets) {
-        return x.plan(1, 2, 0, order(x, sets), what);
+        end("all promises hold");
     }
 
     private static void newObject() {
