@@ -522,34 +522,27 @@ public final class PromiseTest extends Hand {
         due("fault", none.fault(), 0);
     }
 
-    private static void odds(String text, int upper, int lower, int... sets) {
-        LakeWind x = at(text);
-        int n = order(x, sets);
-        due("odds by " + text + ", upper", x.odds(1, 2, 0, n, 0), upper);
-        due("odds by " + text + ", lower", x.odds(1, 2, 0, n, 1), lower);
-    }
-
     private static void odds() {
         promise = "15 odds";
-        odds("w20;.,b01,b01", 1, 1);
-        odds("w4000;.,b01,b01", 1, 2, 3);
-        odds("w4000;..,b01,b01", 1, 4, 3, 3);
-        odds("w4000;..,b01,b01", 1, 2, 3, 1);
-        odds("w4000;..,b01,t01", 1, 1, 3, 3);
-        odds("w4000;..,b01,b11", 1, 1, 3, 3);
-        odds("w4000;.,b01,b01,b11", 1, 2, 7);
-        odds("w4000;.,b01,b11,b11", 1, 2, 6);
+        share("w20;.,b01,b01", 1, 1);
+        share("w4000;.,b01,b01", 1, 2, 3);
+        share("w4000;..,b01,b01", 1, 4, 3, 3);
+        share("w4000;..,b01,b01", 1, 2, 3, 1);
+        share("w4000;..,b01,t01", 1, 1, 3, 3);
+        share("w4000;..,b01,b11", 1, 1, 3, 3);
+        share("w4000;.,b01,b01,b11", 1, 2, 7);
+        share("w4000;.,b01,b11,b11", 1, 2, 6);
         // Fined when > in hour 0; behind < both are over, as they go 2, so hour 1 is free.
-        odds("w20;..,b02,b02", 1, 2, 3, 3);
+        share("w20;..,b02,b02", 1, 2, 3, 3);
         // Fined by > in an hour with both; boat 0 is over behind hour 0 by any wind.
-        odds("w20;..,b02,b01", 1, 1, 1, 3);
-        odds("w4000;.,b01,b01,t11", 1, 2, 7);
+        share("w20;..,b02,b01", 1, 1, 1, 3);
+        share("w4000;.,b01,b01,t11", 1, 2, 7);
         // Isles hold both, so each of four hours has to be <; else they may drift over, and then are free.
-        odds("w4111;..........,b01,b01", 1, 16, 3, 0, 3, 0, 3, 0, 3, 0, 0, 0);
-        odds("w4000;..........,b01,b01", 1, 8, 3, 0, 3, 0, 3, 0, 3, 0, 0, 0);
+        share("w4111;..........,b01,b01", 1, 16, 3, 0, 3, 0, 3, 0, 3, 0, 0, 0);
+        share("w4000;..........,b01,b01", 1, 8, 3, 0, 3, 0, 3, 0, 3, 0, 0, 0);
         // Two from each shore can't be with three boats, but one hour for each shore: 1/2 and 1/2.
-        odds("w4000;..,b01,b01,t11", 1, 4, 3, 7);
-        odds("w20;...,b01,b01", 3, 8, 3, 0, 3);
+        share("w4000;..,b01,b01,t11", 1, 4, 3, 7);
+        share("w20;...,b01,b01", 3, 8, 3, 0, 3);
         LakeWind x = at("w20;>,b01,b01");
         order(x, 3);
         due("the wind itself does not count", x.odds(1, 2, 0, 1, 0), 1);

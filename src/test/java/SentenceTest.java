@@ -17,6 +17,6 @@ public final class SentenceTest extends Chapter {
             wrong++;
             System.out.println("no test names: " + sentence);
         }
-        end("all sentences are named, and hold");
+        end("all sentences are named, and hold: " + sentences + " tests, " + looks + " looks");
     }
 }

@@ -2,6 +2,7 @@
 class Chapter extends Hand {
     private static Document document = null;
     private static String heading = "";
+    static int sentences = 0;
 
     static void of(Document read) {
         document = read;
@@ -23,6 +24,7 @@ class Chapter extends Hand {
     static void says(String sentence, Runnable test) {
         promise = heading + ", \"" + sentence + "\"";
         due("how often it stands in the document, once", document.name(heading, sentence) ? 1 : 0, 1);
+        sentences++;
         int before = looks;
         test.run();
         if (looks == before) {

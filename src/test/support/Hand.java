@@ -79,4 +79,12 @@ class Hand {
     static int planned(LakeWind x, int what, int... sets) {
         return x.plan(1, 2, 0, order(x, sets), what);
     }
+
+    /** The odds of a plan, as both numbers of a share. */
+    static void share(String text, int upper, int lower, int... sets) {
+        LakeWind x = at(text);
+        int n = order(x, sets);
+        due("upper number by " + text, x.odds(1, 2, 0, n, 0), upper);
+        due("lower number by " + text, x.odds(1, 2, 0, n, 1), lower);
+    }
 }

@@ -221,6 +221,26 @@ final class LakeChapter extends Chapter {
         x.reading(0, 0, 1);
         due("a text that is not taken", x.lake(0, 0, 0, 9), -109);
         due("leaves readings", x.many(3), 1);
+        nothingOfFormerTexts();
+    }
+
+    private static void nothingOfFormerTexts() {
+        LakeWind x = at("w4111;>>>>>>>>>>,b01,b01,b01");
+        due("by the first", x.soonest(7), LakeWind.NONE);
+        due("a second", lakeBy(x, "w4000;<<<<,b01,b01,b01"), 3);
+        due("by the second", x.soonest(7), 4);
+        due("a third", lakeBy(x, "w4000;>>,b02"), 1);
+        due("by the third", x.soonest(1), 2);
+        for (int c = 1; c <= 3; c++) {
+            due("no isle of the first at " + c, x.isle(c, false), 0);
+        }
+        due("one that is not taken, with isles", lakeBy(x, "w4111;>>>>,b01,x"), -115);
+        due("a fourth", lakeBy(x, "w4000;>>,b01"), 1);
+        for (int c = 1; c <= 3; c++) {
+            due("no isle of one that was not taken at " + c, x.isle(c, false), 0);
+        }
+        due("no boat of it", x.many(0), 1);
+        due("no hour of it", x.many(2), 2);
     }
 
     private static void toTheOtherShore() {

@@ -147,6 +147,7 @@ final class PlanChapter extends Chapter {
         due("each boat in each hour", planned(x, FINES, 7, 7, 7, 7), 12);
         due("in some hours", planned(x, FINES, 3, 4, 5), 4);
         due("until they are over", planned(x, FINES, 7, 7, 7, 7, 7, 7), 12);
+        due("each plan's own", planned(x, FINES, 7), 3);
     }
 
     private static void firstFine() {
@@ -156,6 +157,10 @@ final class PlanChapter extends Chapter {
         due("in none", planned(at("w4000;>>,b01,b01"), FIRST_FINE, 1, 2), LakeWind.NONE);
         due("no hours", planned(at("w4000;>>,b01,b01"), FIRST_FINE), LakeWind.NONE);
         due("a fine behind the plan", planned(at("w4000;.>,b01,b01"), FIRST_FINE, 3), LakeWind.NONE);
+        LakeWind x = at("w4000;>>,b01,b01");
+        due("a plan with a fine", planned(x, FIRST_FINE, 3), 0);
+        due("then one without", planned(x, FIRST_FINE, 1), LakeWind.NONE);
+        due("then one with a later one", planned(x, FIRST_FINE, 1, 3), 1);
     }
 
     private static void allOver() {
@@ -163,6 +168,10 @@ final class PlanChapter extends Chapter {
         due("it is the first", planned(at("w20;>>>,b02,b12"), ALL_OVER, 3, 0, 3), 0);
         due("behind the second", planned(at("w20;>>>,b02,b12"), ALL_OVER, 1, 2), 1);
         due("behind the last of ten", planned(at("w20;.........>,b02"), ALL_OVER, 1, 1, 1, 1, 1, 1, 1, 1, 1, 1), 9);
+        LakeWind x = at("w20;>>>,b02,b12");
+        due("a plan by which all are", planned(x, ALL_OVER, 3), 0);
+        due("then one by which they are not", planned(x, ALL_OVER, 1), LakeWind.NONE);
+        due("then one by which they are later", planned(x, ALL_OVER, 1, 2), 1);
         due("fined ones are over, too", planned(at("w20;>,b02,b02"), ALL_OVER, 3), 0);
         due("one is not", planned(at("w20;>>>,b02,b12"), ALL_OVER, 1, 1, 1), LakeWind.NONE);
         due("no hours", planned(at("w20;>>>,b02,b12"), ALL_OVER), LakeWind.NONE);

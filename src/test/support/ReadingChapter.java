@@ -180,13 +180,6 @@ final class ReadingChapter extends Chapter {
         due("its own speed stays", x.ofBoat(0, 2), 1);
     }
 
-    private static void share(String text, int upper, int lower, int... sets) {
-        LakeWind x = at(text);
-        int n = order(x, sets);
-        due("upper number by " + text, x.odds(1, 2, 0, n, 0), upper);
-        due("lower number by " + text, x.odds(1, 2, 0, n, 1), lower);
-    }
-
     private static void bothWindsAlike() {
         share("w4000;>,b01,b01", 1, 2, 3);
         share("w4000;<,b01,b01", 1, 2, 3);

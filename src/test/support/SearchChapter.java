@@ -50,6 +50,9 @@ final class SearchChapter extends Chapter {
         due("others may be over, too", at("w20;<,b02,b02,b02").soonest(2), 1);
         due("others that are never over", at("w4000;>,b13,b01").soonest(1), LakeWind.NONE);
         due("one drifts while the other goes", at("w20;>>>,b01,b01").soonest(3), 3);
+        due("three from WIDE, one at a time", at("w4111;<<<<<<<<<<,b12,b12,b13").soonest(7), 6);
+        due("three from WIDE, drifting", at("w4000;<<<<<<<<<<,b11,b11,b11").soonest(7), 6);
+        due("three from WIDE, at once", at("w4111;>>>>>>>>>>,b11,b11,o11").soonest(7), 4);
         due("on an isle none drifts", at("w21;>>>,b01,b01").soonest(3), LakeWind.NONE);
         due("nor sooner than in four", at("w21;>>>>,b01,b01").soonest(3), 4);
     }
@@ -79,6 +82,8 @@ final class SearchChapter extends Chapter {
         due("in none at all", x.hats(7, 0), LakeWind.NONE);
         due("nobody in none at all", x.hats(0, 0), 0);
         due("more than there are hours", x.hats(7, 10), 0);
+        due("far sooner than in time", at("w20;>>>>,b02").hats(1, 4), 0);
+        due("far sooner than in time by one", at("w20;.<<<<<,b03,o02").hats(3, 1), 1);
         due("more than there are, and too few there are", at("w300;..,b01").hats(1, 10), LakeWind.NONE);
         due("more than there are, and just enough by two", at("w20;..,b01").hats(1, 10), 3);
         due("an hour behind them is no help", at("w20;.>,b02").hats(1, 1), 1);

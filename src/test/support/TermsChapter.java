@@ -234,13 +234,6 @@ final class TermsChapter extends Chapter {
         due("speed 1: bit 1", x.speeds(0, 1, 2, 0, 1), 2);
     }
 
-    private static void share(String text, int upper, int lower, int... sets) {
-        LakeWind x = at(text);
-        int n = order(x, sets);
-        due("upper number by " + text, x.odds(1, 2, 0, n, 0), upper);
-        due("lower number by " + text, x.odds(1, 2, 0, n, 1), lower);
-    }
-
     private static void sharesInLeastTerms() {
         share("w4000;.,b01,b01", 1, 1);
         share("w4000;.,b01,b01", 1, 2, 3);
