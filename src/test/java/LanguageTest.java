@@ -30,6 +30,7 @@ public final class LanguageTest {
         due(LakeWind.class.getDeclaredClasses().length <= 12, "too many classes");
         words(withoutComments(source));
         lengths(source);
+        room(withoutComments(source));
         System.out.println(wrong == 0 ? "the language is kept" : wrong + " rules are broken");
         if (wrong != 0) {
             System.exit(1);
@@ -141,6 +142,21 @@ public final class LanguageTest {
                     from = -1;
                 }
             }
+        }
+    }
+
+    /** All calls of a run live in one room: rows are made with the object, and calls make boats alone. */
+    private static void room(String code) {
+        Pattern maker = Pattern.compile(" +(public )?[A-Z][A-Za-z]*\\(.*| +private static Boat newBoat\\(.*");
+        String method = "";
+        for (String line : code.split("\n")) {
+            if (line.matches("( {4}| {8})(?! )(?!\\}|for |if |switch ).*\\) \\{")) {
+                method = line;
+            } else if (line.matches("( {4}|)\\}")) {
+                method = "";
+            }
+            boolean makes = line.matches(".*\\bnew\\b.*") && !method.isEmpty();
+            due(!makes || maker.matcher(method).matches(), "made outside of constructors: " + line.trim());
         }
     }
 }
